@@ -1320,36 +1320,32 @@ public final class KnotLaundry {
         /** C of the document. */
         private boolean readClaim(Tape tape, int open) {
             int sign = tape.token;
-            if (sign != Tape.NOT_WORD && sign != '(') {
-                return readComparison(tape);
+            if (sign == Tape.NOT_WORD || sign == '(') {
+                if (open >= MOST_OPEN_SIGNS) {
+                    return tape.refuse(TOO_MANY);
+                }
+                tape.next();
+                if (sign == '(') {
+                    return readCondition(tape, open + 1) && tape.take(')');
+                }
+                if (!readClaim(tape, open + 1)) {
+                    return false;
+                }
+                law.put(NOT);
+                return true;
             }
-            if (open >= MOST_OPEN_SIGNS) {
-                return tape.refuse(TOO_MANY);
-            }
-            tape.next();
-            if (sign == '(') {
-                return readCondition(tape, open + 1) && tape.take(')');
-            }
-            if (!readClaim(tape, open + 1)) {
-                return false;
-            }
-            law.put(NOT);
-            return true;
-        }
-
-        private boolean readComparison(Tape tape) {
             if (!readSum(tape)) {
                 return false;
             }
-            int sign = tape.token == '<' ? LESS : tape.token == '=' ? EQUAL : tape.token == '>' ? MORE : NONE;
-            if (sign == NONE) {
+            int beside = tape.token == '<' ? LESS : tape.token == '=' ? EQUAL : tape.token == '>' ? MORE : NONE;
+            if (beside == NONE) {
                 return tape.refuse(CANT_STAND);
             }
             tape.next();
             if (!readSum(tape)) {
                 return false;
             }
-            law.put(sign);
+            law.put(beside);
             return true;
         }
 
@@ -1497,9 +1493,10 @@ public final class KnotLaundry {
         private static final int[] CASES_WITH = {0xAAAA, 0xCCCC, 0xF0F0, 0xFF00};
         /**
          * What a run of so many free places is worth: the least number to which no filling of a place leads.
-         * With a place filled the two next to it on each side are lost, for whoever fills one of these loses.
+         * With a place filled the two next to it on each side are lost, for whoever fills one of these loses;
+         * so of 16 places 13 at most are left in a run.
          */
-        private static final int[] NIMBERS = {0, 1, 1, 1, 2, 2, 0, 3, 3, 1, 1, 1, 0, 4, 3, 3, 3};
+        private static final int[] NIMBERS = {0, 1, 1, 1, 2, 2, 0, 3, 3, 1, 1, 1, 0, 4};
 
         private final int[] stack = new int[CROSSINGS];
         private final int[] laid = new int[7];

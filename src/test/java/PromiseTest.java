@@ -332,6 +332,22 @@ public final class PromiseTest {
     static void faults() {
         fault("ties", 0, 1, 4);
         fault("ties  ", 0, 1, 6);
+        fault("mind 1;", 0, 1, 0);
+        fault("when 1;", 0, 1, 0);
+        fault("1;", 0, 1, 0);
+        fault(";", 0, 1, 0);
+        for (char letter : "azAZ".toCharArray()) {
+            fault("ties" + letter + " 1;", 0, 1, 0);
+            fault(letter + "ties 1;", 0, 1, 0);
+        }
+        for (char strange : "@[`{_\r\0\u00e4\u00ff".toCharArray()) fault("ties" + strange + " 1;", 0, 1, 4);
+        fault("ties 1:;", 0, 1, 6);
+        fault("ties 1,;", 0, 1, 6);
+        fault("ties tells;", 0, 1, 5);
+        fault("ties tie;", 0, 1, 5);
+        fault("ties when;", 0, 1, 5);
+        fault("ties person;", 0, 1, 5);
+        fault("ties on;", 0, 1, 5);
         fault("ties 1", 0, 1, 6);
         fault("ties 1; Ties 1;", 0, 1, 8);
         fault("ties 1; tie 1;", 0, 1, 8);
@@ -362,6 +378,12 @@ public final class PromiseTest {
         fault("on 1000 tie 9 9;", 1, 2, 3);
         fault("on x", 1, 1, 3);
         fault("on 0 tied 0 0;", 1, 1, 5);
+        fault("on 0 ties 0 0;", 1, 1, 5);
+        fault("on 0 day 0 0;", 1, 1, 5);
+        fault("on 0 when 0;", 1, 1, 5);
+        fault("on 0 person 0 mind 1;", 1, 1, 5);
+        fault("wash 0;", 1, 1, 0);
+        fault("person 0 knows 1;", 1, 1, 0);
         fault("on 0 tie 4 0;", 1, 2, 9);
         fault("on 0 tie 3 2;", 1, 2, 11);
         fault("on 0 tie 3;", 1, 1, 10);
@@ -384,6 +406,8 @@ public final class PromiseTest {
         fault("person 0 knows 0000;", 3, 2, 15);
         fault("person 0 knows 00000;", 3, 1, 15);
         fault("person 0 mind 1;", 3, 1, 9);
+        fault("on 0 person 0 knows 1;", 3, 1, 0);
+        fault("person 0 person 1;", 3, 1, 9);
         fault("person0knows1;".repeat(16) + "person 9", 3, 3, 224);
     }
 
