@@ -136,7 +136,7 @@ public final class KnotLaundry {
     }
 
     public int days(int n) {
-        if (!canGo(n)) {
+        if (!isWithin(n, 1, DAYS_AT_ONCE) || now.world.day + n > LAST_DAY) {
             return NONE;
         }
         int kept = 0;
@@ -251,8 +251,9 @@ public final class KnotLaundry {
         return now.book.read(i, what);
     }
 
+    /** In thought days may go past the last one: only for days() is that a ground to refuse. */
     public int goes(int n, int what) {
-        if (!canGo(n)) {
+        if (!isWithin(n, 1, DAYS_AT_ONCE)) {
             return NONE;
         }
         think(n);
@@ -511,10 +512,6 @@ public final class KnotLaundry {
             kept.copy(now.world);
         }
         undoable++;
-    }
-
-    private boolean canGo(int n) {
-        return isWithin(n, 1, DAYS_AT_ONCE) && now.world.day + n <= LAST_DAY;
     }
 
     private void think(int n) {

@@ -15,6 +15,7 @@ public final class ModelTest {
     static final int[] linesSeen = new int[5];
     static int textsTold = 0;
     static int undone = 0;
+    static int refusedAtTheEnd = 0;
 
     static final class Fault extends RuntimeException {
         private static final long serialVersionUID = 1;
@@ -383,7 +384,7 @@ public final class ModelTest {
         }
 
         int goes(int n, int what) {
-            if (n < 1 || n > 60 || w.day + n > 9999) return NONE;
+            if (n < 1 || n > 60) return NONE;
             World t = thought(n);
             switch (what) {
                 case 0: return t.persons.stream().mapToInt(p -> p.kept).sum();
@@ -810,6 +811,22 @@ public final class ModelTest {
         }
     }
 
+    /** Random runs never come so far: a few days ahead of the last one, where days() refuses and goes() does not. */
+    static void runAtTheEnd(int run, Random r) {
+        KnotLaundry x = new KnotLaundry();
+        Model m = new Model();
+        for (int i = 0; i < 3; i++) { due(run, "person", x.person(i), m.person(i)); due(run, "cloth", x.cloth(i), m.cloth(i)); }
+        for (int i = 0; i < 166; i++) due(run, "days(60)", x.days(60), m.days(60));
+        for (int i = 0; i < 150 && wrong == 0; i++) {
+            oneCall(run, r, x, m);
+            if (i % 10 == 0) compareAll(run, x, m);
+            int n = r.nextInt(62);
+            for (int what = 0; what < 4; what++) due(run, "goes(" + n + ", " + what + ")", x.goes(n, what), m.goes(n, what));
+        }
+        compareAll(run, x, m);
+        refusedAtTheEnd += x.days(60) == NONE ? 1 : 0;
+    }
+
     /** A test that never came to some kind of fault or line has not tested it. */
     static void wantSome(String what, int count) {
         if (count == 0) { wrong++; System.out.println("never came to " + what); }
@@ -818,9 +835,11 @@ public final class ModelTest {
     public static void main(String[] args) {
         int runs = args.length > 0 ? Integer.parseInt(args[0]) : 1500;
         for (int i = 0; i < runs && wrong == 0; i++) run(i, new Random(7919L * i + 1));
+        for (int i = 0; i < 20 && wrong == 0; i++) runAtTheEnd(i, new Random(104729L * i + 1));
         for (int i = 0; i < faultsSeen.length; i++) wantSome("fault " + i, faultsSeen[i]);
         for (int i = 0; i < linesSeen.length; i++) wantSome("book's line of kind " + i, linesSeen[i]);
         wantSome("undo", undone);
+        wantSome("the last day", refusedAtTheEnd);
         System.out.println("ModelTest: " + textsTold + " texts, faults " + Arrays.toString(faultsSeen) + ", book " + Arrays.toString(linesSeen)
             + ", undone " + undone + (wrong == 0 ? ": all as due" : ": " + wrong + " wrong"));
         if (wrong != 0) System.exit(1);

@@ -621,8 +621,29 @@ public final class PromiseTest {
         for (int i = 0; i < 166; i++) x.days(60);
         x.days(9);
         due(17, "goes(30, 1), to 9999", x.goes(30, 1), 6);
-        due(17, "goes(31, 1), above 9999", x.goes(31, 1), NONE);
+        due(17, "goes(31, 1), above 9999", x.goes(31, 1), 6);
         due(18, "fate past 9999", x.fate(0), x.thingOf(0, 4));
+        goesPastTheLastDay(x);
+    }
+
+    /** Only for days() is a DAY above 9999 a ground to refuse. */
+    static void goesPastTheLastDay(KnotLaundry x) {
+        due(17, "days(30)", x.days(30), 0);
+        due(17, "look(6)", x.look(6), 9999);
+        int late = x.thing(1, 5);
+        due(17, "one that is past is tied", x.act(0, late, 0) ? 1 : 0, 1);
+        for (int n : new int[] {1, 2, 59, 60}) {
+            due(17, "goes(" + n + ", 0) on the last day", x.goes(n, 0), x.of(0, 1) + x.of(1, 1));
+            due(17, "goes(" + n + ", 1) on the last day", x.goes(n, 1), 6);
+            due(17, "goes(" + n + ", 2) on the last day", x.goes(n, 2), 1);
+            due(17, "goes(" + n + ", 3) on the last day", x.goes(n, 3), x.thingOf(late, 3));
+        }
+        for (int n : new int[] {-1, 0, 61, LEAST, MOST}) due(17, "goes(" + n + ", 0) on the last day", x.goes(n, 0), NONE);
+        for (int what : new int[] {-1, 4, LEAST, MOST}) due(17, "goes(60, " + what + ") on the last day", x.goes(60, what), NONE);
+        due(17, "nothing of it stays: DAY", x.look(6), 9999);
+        due(17, "nothing of it stays: what can be undone", x.look(13), 1);
+        due(8, "days(1) on the last day", x.days(1), NONE);
+        due(18, "fate on the last day", x.fate(late), 0);
     }
 
     static void fewThoughts() {
