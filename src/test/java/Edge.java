@@ -201,7 +201,7 @@ abstract class Edge {
 
     /** Days go by till a day, as many at once as can be. */
     static void daysTill(KnotLaundry x, int day) {
-        while (x.look(6) < day) x.days(Math.min(60, day - x.look(6)));
+        for (int n = day - x.look(6); n > 0; n -= 60) x.days(Math.min(60, n));
     }
 
     static String times(int n, String s) { return s.repeat(Math.max(n, 0)); }

@@ -115,6 +115,15 @@ public final class EdgeTextTest extends Edge {
         due("end(7), without the ;", x.end(7), true);
         due("text(0)", x.text(LAW), NONE);
         due("fault(1), its end", x.fault(1), 7);
+        // Cut within a number, within a word: what was behind is not read.
+        feed(x, "slips 12;");
+        due("end(7)", x.end(7), true);
+        due("text(0)", x.text(LAW), NONE);
+        due("fault(1)", x.fault(1), 7);
+        feed(x, "slips mind;");
+        due("end(9)", x.end(9), true);
+        due("text(0)", x.text(LAW), NONE);
+        due("fault(1), no keyword any more", x.fault(1), 6);
     }
 
     static void p10NotSoMany() {
@@ -171,10 +180,39 @@ public final class EdgeTextTest extends Edge {
         due("of(0, 6), no friends", x.of(0, 6), 0);
     }
 
+    static void p11InThePlaceOfTheLatest() {
+        says(11, "is TEXT k: how many lines. NONE: no such one");
+        KnotLaundry x = lentAway();
+        // Each text is read anew, however many were read before it.
+        String law = "slips " + times(190, "1+") + "1;";
+        for (int i = 1; i <= 4; i++) {
+            due("text(0), the " + i + "th", say(x, LAW, law + "tells " + i + ";"), 2);
+            due("thingOf(0, 5)", x.thingOf(0, 5), 191);
+            due("thingOf(0, 6)", x.thingOf(0, 6), i);
+        }
+        due("text(0), of fewer lines", say(x, LAW, "slips 5;"), 1);
+        due("look(9)", x.look(9), 1);
+        due("thingOf(0, 5)", x.thingOf(0, 5), 5);
+        due("thingOf(0, 6), no line tells it now", x.thingOf(0, 6), 0);
+        say(x, DEEDS, "on 0 wash 0; on 0 wash 1;");
+        due("text(1), of fewer lines", say(x, DEEDS, "on 0 wash 0;"), 1);
+        say(x, MINDS, "on 0 person 0 mind 7; on 0 person 1 mind 7;");
+        due("text(2), of fewer lines", say(x, MINDS, "on 0 person 0 mind 8;"), 1);
+        say(x, FRIENDS, "person 0 knows 1; person 0 knows 2;");
+        due("text(3), of fewer lines", say(x, FRIENDS, "person 1 knows 2;"), 1);
+        x.days(1);
+        due("clothOf(0, 1)", x.clothOf(0, 1), 1);
+        due("clothOf(1, 1)", x.clothOf(1, 1), 0);
+        due("of(0, 0)", x.of(0, 0), 8);
+        due("of(1, 0)", x.of(1, 0), 0);
+        due("of(0, 6)", x.of(0, 6), 0);
+        due("of(2, 6)", x.of(2, 6), 2);
+    }
+
     static void p11NoSuchOne() {
         says(11, "NONE: no such one (fault() tells 0)");
-        KnotLaundry x = house();
         for (int k : new int[] {-1, 4, LEAST, MOST}) {
+            KnotLaundry x = house();
             due("text(0) with a fault", say(x, LAW, "slips z;"), NONE);
             due("fault(0)", x.fault(0), 1);
             String was = all(x);
@@ -339,6 +377,10 @@ public final class EdgeTextTest extends Edge {
         refused(x, LAW, "slips tie;", 1, 6);
         refused(x, LAW, "slips person;", 1, 6);
         refused(x, LAW, "on 0 wash 0;", 1, 0);
+        refused(x, LAW, "mind 1;", 1, 0);
+        refused(x, LAW, "when 1;", 1, 0);
+        refused(x, DEEDS, "on 0 day 0 0;", 1, 5);
+        refused(x, DEEDS, "on 0 when 0;", 1, 5);
         refused(x, DEEDS, "slips 1;", 1, 0);
         refused(x, DEEDS, "on 0 person 0 mind 1;", 1, 5);
         refused(x, DEEDS, "on day wash 0;", 1, 3);

@@ -159,6 +159,11 @@ public final class EdgeThoughtTest extends Edge {
                 due("strip(" + 64 * k + ", -1, " + what + ")", x.strip(64 * k, -1, what), NONE);
             }
         }
+        // However great f is, k alone tells how many cells there are.
+        for (int k = 0; k <= 6; k++) {
+            due("strip(" + (64 * k + 63) + ", " + (1 << k) + ", 0)", x.strip(64 * k + 63, 1 << k, 0), NONE);
+            due("strip(" + (64 * k + 63) + ", " + ((1 << k) - 1) + ", 0)", x.strip(64 * k + 63, (1 << k) - 1, 0) == NONE, false);
+        }
         for (int i : new int[] {LEAST, MOST}) due("strip(64, " + i + ", 0)", x.strip(64, i, 0), NONE);
         for (int what : new int[] {-1, 3, LEAST, MOST}) due("strip(64, 0, " + what + ")", x.strip(64, 0, what), NONE);
     }
@@ -208,6 +213,30 @@ public final class EdgeThoughtTest extends Edge {
             for (int i = 0; i < 4; i++) {
                 due("strip(128 + " + f + ", " + i + ", 0)", x.strip(128 + f, i, 0), four[f][i]);
                 due("strip(128 + " + f + ", " + four[f][i] + ", 1)", x.strip(128 + f, four[f][i], 1), i);
+            }
+        }
+    }
+
+    static void p22OfSixtyFourCells() {
+        says(22, "STRIP of 2 to the k cells (k 0 .. 6) in a row, 0 first from the left, each face up");
+        KnotLaundry x = new KnotLaundry();
+        int[] pile = {0};
+        for (int k = 1; k <= 6; k++) {
+            // Folded once, each cell j has the one of the right half upon it; a cell that lies face down later turns both.
+            int cells = 1 << k;
+            int[] next = new int[cells];
+            for (int i = 0; i < cells / 2; i++) {
+                int j = pile[i];
+                next[2 * i] = j % 2 == 0 ? cells - 1 - j : j;
+                next[2 * i + 1] = j % 2 == 0 ? j : cells - 1 - j;
+            }
+            pile = next;
+            for (int i = 0; i < cells; i += k < 4 ? 1 : 5) {
+                due("strip(" + 64 * k + ", " + i + ", 0)", x.strip(64 * k, i, 0), pile[i]);
+                due("strip(" + 64 * k + ", " + pile[i] + ", 1)", x.strip(64 * k, pile[i], 1), i);
+                due("strip(" + 64 * k + ", " + i + ", 2)", x.strip(64 * k, i, 2), (i + 1) % 2);
+                // The other halves: as in a mirror.
+                due("strip(" + (64 * k + 63) + ", " + i + ", 0)", x.strip(64 * k + 63, i, 0), cells - 1 - pile[i]);
             }
         }
     }
@@ -570,6 +599,10 @@ public final class EdgeThoughtTest extends Edge {
         due("pages(2, 0), 2 went", x.pages(2, 0), 4);
         due("pages(1, 0)", x.pages(1, 0), 6);
         due("pages(3, 0)", x.pages(3, 0), 3);
+        for (int page : new int[] {0, 9}) {
+            due("pages(1, 0), " + page + " goes", askedFor(page, 5, page).pages(1, 0), 3);
+            due("pages(2, 0), " + page + " goes", askedFor(page, 5, 6, 5, page).pages(2, 0), 4);
+        }
     }
 
     static void p30AtTheFewest() {
@@ -852,6 +885,12 @@ public final class EdgeThoughtTest extends Edge {
             due("spelt(1, " + v + "), of a 1", x.spelt(1, v), NONE);
             due("spelt(2, " + v + ")", x.spelt(2, v), v % 4);
         }
+        KnotLaundry y = told(7, 2, 3);
+        for (int v = 0; v < 36; v++) {
+            due("spelt(0, " + v + ")", y.spelt(0, v), v / 9);
+            due("spelt(1, " + v + ")", y.spelt(1, v), v / 3 % 3);
+            due("spelt(2, " + v + ")", y.spelt(2, v), v % 3);
+        }
     }
 
     static void p36NoneSuch() {
@@ -865,6 +904,10 @@ public final class EdgeThoughtTest extends Edge {
             due("spelt(1, " + v + ")", x.spelt(1, v), NONE);
         }
         for (int i : new int[] {-2, 2, LEAST, MOST}) due("spelt(" + i + ", 0)", x.spelt(i, 0), NONE);
+        x.digit(NONE);
+        x.digit(3);
+        due("spelt(0, 2), of the only digit", x.spelt(0, 2), 2);
+        due("spelt(1, 0), of one that was told before", x.spelt(1, 0), NONE);
     }
 
     static void p36VNotAsked() {

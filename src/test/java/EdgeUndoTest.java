@@ -394,6 +394,11 @@ public final class EdgeUndoTest extends Edge {
         x.key(NONE);
         x.ask(NONE);
         x.digit(NONE);
+        x.crossing(3);
+        x.answer(0);
+        x.key(8);
+        x.ask(8);
+        x.digit(8);
         x.days(9);
         due("image(false)", x.image(false), true);
         same("image(false)", was, x);
@@ -402,6 +407,26 @@ public final class EdgeUndoTest extends Edge {
         due("clothOf(1, 1), by the deeds of then", x.clothOf(1, 1), 1);
         due("of(1, 0), by the minds of then", x.of(1, 0), 6);
         due("of(0, 6)", x.of(0, 6), 2);
+    }
+
+    static void p39TheBookOfThen() {
+        says(39, "THE IMAGE: all that is and was told but the TAPE, fault() and what can be undone (nothing then), as it was when it was taken");
+        KnotLaundry x = house();
+        x.act(0, 0, 0);
+        x.act(0, 1, 1);
+        x.image(true);
+        String was = all(x);
+        // Undone and done otherwise: the second line is another one.
+        x.undo();
+        x.act(0, 2, 0);
+        line(x, 1, 0, 0, 2, 3);
+        x.act(0, 3, 0);
+        due("look(7)", x.look(7), 3);
+        due("image(false)", x.image(false), true);
+        due("look(7)", x.look(7), 2);
+        line(x, 0, 0, 0, 0, 3);
+        line(x, 1, 0, 0, 1, 1);
+        due("look(13), and nothing else is another", was.replace(" 2; person 0", " 0; person 0").equals(all(x)), true);
     }
 
     static void p39MoreThanOnce() {
