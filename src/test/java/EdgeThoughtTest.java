@@ -161,7 +161,9 @@ public final class EdgeThoughtTest extends Edge {
         }
         // However great f is, k alone tells how many cells there are.
         for (int k = 0; k <= 6; k++) {
-            due("strip(" + (64 * k + 63) + ", " + (1 << k) + ", 0)", x.strip(64 * k + 63, 1 << k, 0), NONE);
+            for (int what = 0; what <= 2; what++) {
+                due("strip(" + (64 * k + 63) + ", " + (1 << k) + ", " + what + ")", x.strip(64 * k + 63, 1 << k, what), NONE);
+            }
             due("strip(" + (64 * k + 63) + ", " + ((1 << k) - 1) + ", 0)", x.strip(64 * k + 63, (1 << k) - 1, 0) == NONE, false);
         }
         for (int i : new int[] {LEAST, MOST}) due("strip(64, " + i + ", 0)", x.strip(64, i, 0), NONE);
