@@ -54,6 +54,21 @@ public final class EdgeDaysTest extends Edge {
         due("look(0) of a third one", new KnotLaundry().look(0), 0);
     }
 
+    static void p01FiveHundredAndTwelveCalls() {
+        says(1, "An object is used for at most 512 calls after it has been made; what later calls answer is free.");
+        KnotLaundry x = new KnotLaundry();
+        due("person(3)", x.person(3), 0);
+        due("cloth(0)", x.cloth(0), 0);
+        due("thing(0, 999)", x.thing(0, 999), 0);
+        due("act(0, 0, 0)", x.act(0, 0, 0), true);
+        for (int i = 0; i < 506; i++) due("state(" + i + ")", x.state(i), Math.max(0, i - 1));
+        due("thingOf(0, 2), the 511th call", x.thingOf(0, 2), 0);
+        due("look(8), the 512th", x.look(8), 505);
+        // Each of the 512 may be a dear one.
+        KnotLaundry y = house(1, 1, 1, 999);
+        for (int i = 0; i < 509; i++) due("goes(60, 1)", y.goes(60, 1), 0);
+    }
+
     static void p01StateAtFirst() {
         says(1, "STATE of draws (an int, 0 at first)");
         KnotLaundry x = new KnotLaundry();

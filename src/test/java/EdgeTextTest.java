@@ -495,6 +495,19 @@ public final class EdgeTextTest extends Edge {
         due("of(1, 0)", x.of(1, 0), 9);
     }
 
+    static void p11OneBeyondItsBounds() {
+        says(11, "2 (at the NUMBER) a part by 0; one beyond its bounds");
+        KnotLaundry x = house();
+        // At the number itself, wherever it stands, and blanks ahead of it not counted.
+        taken(x, DEEDS, "on  999  wash 0;", 1);
+        refused(x, DEEDS, "on  1000  wash 0;", 2, 4);
+        refused(x, DEEDS, "on 0 wash 0;\non\n\n9999 wash 0;", 2, 17);
+        taken(x, MINDS, "on 0 person 0 mind  0009;", 1);
+        refused(x, MINDS, "on 0 person 0 mind  0010;", 2, 20);
+        // A law's numbers have no bounds but their four digits.
+        taken(x, LAW, "slips 9999 when 9999 > 0000;", 1);
+    }
+
     static void p11WhomThereIsNot() {
         says(11, "a THING, a CLOTH, a PERSON that there is not");
         KnotLaundry x = house();
@@ -660,6 +673,18 @@ public final class EdgeTextTest extends Edge {
         due("thingOf(0, 21), lines that are not so", x.thingOf(0, 21), 1);
         due("thingOf(0, 5), lines that are not so", x.thingOf(0, 5), 0);
         due("thingOf(0, 6), lines that are not so", x.thingOf(0, 6), 50);
+    }
+
+    static void p15QuotientsGoDownwards() {
+        says(15, "Quotients go downwards.");
+        KnotLaundry x = house();
+        int[] half = {0, 0, 1, 1, 2, 2, 3, 3, 4, 4};
+        for (int mind = 0; mind <= 9; mind++) {
+            x.set(0, 0, mind);
+            due("thingOf(0, 20), mind " + mind, x.thingOf(0, 20), 1 + half[mind]);
+        }
+        for (int c = 0; c < 3; c++) due("piles(" + c + ", 1000)", x.piles(c, 1000), 0);
+        due("piles(26, 1222), 26 by 3 is 8", x.piles(26, 1222), 26);
     }
 
     static void p15TiesHeld() {

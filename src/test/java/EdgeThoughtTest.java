@@ -289,6 +289,22 @@ public final class EdgeThoughtTest extends Edge {
         due("answer(0)", x.answer(0), 1);
     }
 
+    static void p24TheFirstOnDayNought() {
+        says(24, "BOXES: up to 16 told answers (1 right, 0 wrong), the first on day 0 in box 1");
+        KnotLaundry x = new KnotLaundry();
+        x.answer(1);
+        due("boxes(0), out of 1", x.boxes(0), 2);
+        due("boxes(1), two days behind day 0", x.boxes(1), 2);
+        KnotLaundry y = new KnotLaundry();
+        for (int i = 0; i < 16; i++) y.answer(i % 2);
+        due("boxes(0), the sixteenth was right", y.boxes(0), 2);
+        due("boxes(1), eight times 1 and 2", y.boxes(1), 24);
+        KnotLaundry z = new KnotLaundry();
+        for (int i = 0; i < 16; i++) z.answer(1 - i % 2);
+        due("boxes(0), the sixteenth was wrong", z.boxes(0), 1);
+        due("boxes(1)", z.boxes(1), 24);
+    }
+
     static void p24FiveAtMost() {
         says(24, "right: into the next box (5 at most, out of 5 into 5), asked again 1, 2, 4, 8, 16 days on, if it comes into box 1, 2, 3, 4, 5");
         KnotLaundry x = new KnotLaundry();
